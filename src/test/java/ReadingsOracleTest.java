@@ -725,6 +725,50 @@ public final class ReadingsOracleTest {
         due("together", x.together(), together ? 1 : 0);
     }
 
+    /** Goes over 1 to 1, one small factor at a time, so that no step is refused. */
+    private static void bend(MensuralRows x, int up, int down) {
+        int[] from = {x.told(0, 3), x.told(0, 4)}, to = {up, down};
+        for (int f = 2; f < 9; f++) {
+            while (from[0] % f == 0 || from[1] % f == 0) {
+                boolean first = from[0] % f == 0;
+                due("bend", x.proportion(0, first ? 1 : f, first ? f : 1), 1);
+                from[first ? 0 : 1] /= f;
+            }
+        }
+        for (int f = 2; f < 9; f++) {
+            while (to[0] % f == 0 || to[1] % f == 0) {
+                boolean first = to[0] % f == 0;
+                due("bend", x.proportion(0, first ? f : 1, first ? 1 : f), 1);
+                to[first ? 0 : 1] /= f;
+            }
+        }
+        due("bent up", x.told(0, 3), up);
+        due("bent down", x.told(0, 4), down);
+    }
+
+    /** Denominators without common factors: the greatest numbers that times can have. */
+    private static void compareGreatTimes() {
+        MensuralRows x = new MensuralRows();
+        Song song = new Song(14);
+        x.voice(14);
+        int[][] proportions = {{512, 945}, {729, 1000}, {625, 972}, {343, 1000}, {1, 1000}, {1, 1000}};
+        for (int i = 0; i < 12; i++) {
+            int[] now = proportions[i % 6];
+            bend(x, now[0], now[1]);
+            for (Symbol s : List.of(new Symbol(1, 0, i, false), DOT)) {
+                put(x, 0, s);
+                song.row.add(s);
+                song.proportions.add(now);
+            }
+        }
+        song.readings = new Oracle(14, song.row).readings();
+        compareTimes(new Random(1), x, 0, song);
+        Random r = new Random(2);
+        for (int i = 0; i < 6; i++) {
+            compareFollower(r, x, 0, song);
+        }
+    }
+
     // ---- rows for values
 
     private static List<Symbol> rowOf(int number, int n) {
@@ -801,6 +845,7 @@ public final class ReadingsOracleTest {
         for (int turn = 0; turn < 1500; turn++) {
             compareSongs(r);
         }
+        compareGreatTimes();
         for (int sign = 0; sign < 16; sign++) {
             for (int n = 1; n <= 3; n++) {
                 compareWriting(sign, n, r);

@@ -19,16 +19,24 @@ public final class MensuralRows {
     private int voiceCount, followerCount;
 
     public MensuralRows() {
+        // All that is ever kept is made here, so that calls make nothing.
+        for (int i = 0; i < voices.length; i++) {
+            voices[i] = new Voice();
+        }
+        for (int i = 0; i < followers.length; i++) {
+            followers[i] = new Follower();
+        }
     }
 
     public int voice(int sign) {
         if (sign < 0 || sign >= SIGNS) {
             return BAD;
         }
-        if (voiceCount < 0 || voiceCount >= voices.length) {
+        Voice fresh = voiceCount < 0 || voiceCount >= voices.length ? null : voices[voiceCount];
+        if (fresh == null) {
             return FULL;
         }
-        voices[voiceCount] = new Voice(sign, MOST_SYMBOLS);
+        fresh.setSign(sign);
         voiceCount++;
         return voiceCount - 1;
     }
@@ -136,8 +144,10 @@ public final class MensuralRows {
         if (v == null) {
             return BAD;
         }
-        reader.read(v);
-        return v.found.isMany() ? MANY : v.found.total;
+        if (v.stale) {
+            reader.read(v);
+        }
+        return v.isMany() ? MANY : v.total;
     }
 
     public int stuck(int voice) {
@@ -145,20 +155,30 @@ public final class MensuralRows {
         if (v == null) {
             return BAD;
         }
-        reader.read(v);
-        return v.found.furthest == v.row.size ? NONE : v.found.furthest;
+        if (v.stale) {
+            reader.read(v);
+        }
+        return v.furthest == v.row.size ? NONE : v.furthest;
     }
 
     public int strained(int voice, int reading) {
         Voice v = voiceAt(voice);
         int refusal = refusalOf(v, reading);
-        return v == null || refusal != LAWFUL ? refusal : v.found.strainOf(reading);
+        if (v == null || refusal != LAWFUL) {
+            return refusal;
+        }
+        reader.makeAgain(v, reading);
+        return reader.draft.strain;
     }
 
     public int form(int voice, int reading, int i) {
         Voice v = voiceAt(voice);
         int refusal = refusalOf(v, reading);
-        return v == null || refusal != LAWFUL ? refusal : v.found.formOf(reading, i);
+        if (v == null || refusal != LAWFUL) {
+            return refusal;
+        }
+        reader.makeAgain(v, reading);
+        return reader.draft.formAt(i);
     }
 
     public int value(int voice, int reading, int i) {
@@ -167,7 +187,11 @@ public final class MensuralRows {
         if (v == null || refusal != LAWFUL) {
             return refusal;
         }
-        return i < 0 || i >= v.row.size ? NONE : v.found.ticksOf(reading, i);
+        if (i < 0 || i >= v.row.size) {
+            return NONE;
+        }
+        reader.makeAgain(v, reading);
+        return reader.draft.ticksAt(i);
     }
 
     public int pick(int voice, int reading) {
@@ -176,8 +200,9 @@ public final class MensuralRows {
         if (v == null || refusal != LAWFUL) {
             return refusal;
         }
+        reader.makeAgain(v, reading);
         int before = v.picked;
-        v.picked = reading;
+        v.holdPicked(reading, reader.draft);
         return before;
     }
 
@@ -271,12 +296,11 @@ public final class MensuralRows {
         if (refusal != LAWFUL) {
             return refusal;
         }
-        if (followerCount < 0 || followerCount >= followers.length) {
+        Follower fresh = followerCount < 0 || followerCount >= followers.length ? null : followers[followerCount];
+        if (fresh == null) {
             return FULL;
         }
-        Follower made = new Follower();
-        made.follow(v, how, behind, higher);
-        followers[followerCount] = made;
+        fresh.follow(v, how, behind, higher);
         followerCount++;
         return followerCount - 1;
     }
@@ -335,11 +359,13 @@ public final class MensuralRows {
         if (v == null) {
             return BAD;
         }
-        reader.read(v);
-        if (v.found.isMany()) {
+        if (v.stale) {
+            reader.read(v);
+        }
+        if (v.isMany()) {
             return MANY;
         }
-        return reading < 0 || reading >= v.found.total ? NONE : LAWFUL;
+        return reading < 0 || reading >= v.total ? NONE : LAWFUL;
     }
 
     private boolean beginTogether(Row row, int i, Row otherRow, int j) {
@@ -470,19 +496,13 @@ public final class MensuralRows {
         }
     }
 
-    /** A row under a sign, with its readings. */
+    /** A row under a sign, what is known of its readings, and the values of the one picked. */
     private static final class Voice {
-        private final int[] fulls = new int[KINDS];
+        private final int[] fulls = new int[KINDS], ticks = new int[MOST_SYMBOLS];
         final Row row = new Row();
-        final Found found;
-        int sign, ground, picked;
+        int sign, ground, total, furthest, picked;
         // Rows are read when an answer needs it, not at each symbol.
         boolean stale = true;
-
-        Voice(int sign, int symbols) {
-            found = new Found(symbols);
-            setSign(sign);
-        }
 
         void setSign(int newSign) {
             sign = newSign;
@@ -525,54 +545,69 @@ public final class MensuralRows {
             stale = true;
             picked = 0;
         }
-    }
 
-    /** The readings of one row; those whose forms are all the same are held once. */
-    private static final class Found {
-        private static final int STRAINS = 128;
-        private final int formWidth, tickWidth;
-        private final byte[] forms;
-        private final short[] ticks;
-        private final int[] lengths = new int[MOST_READINGS], strains = new int[MOST_READINGS];
-        private final int[] copies = new int[MOST_READINGS], order = new int[MOST_READINGS];
-        private final int[] firstOfStrain = new int[STRAINS + 1];
-        private int held;
-        int total, furthest;
-
-        Found(int symbols) {
-            // A reading of n symbols has at most 2 n - 1 forms: each joins two parts or stands for a symbol.
-            tickWidth = Math.max(1, Math.min(symbols, MOST_SYMBOLS));
-            formWidth = 2 * tickWidth;
-            forms = new byte[MOST_READINGS * formWidth];
-            ticks = new short[MOST_READINGS * tickWidth];
-        }
-
-        void clear() {
-            held = 0;
-            total = 0;
-            furthest = 0;
+        void know(int readings, int symbolsReached) {
+            total = readings;
+            furthest = symbolsReached;
+            stale = false;
         }
 
         boolean isMany() {
             return total > MOST_READINGS;
         }
 
-        void add(Draft draft) {
-            total = isMany() ? total : total + draft.copies;
-            if (isMany() || held < 0 || held >= MOST_READINGS) {
-                return;
+        void holdPicked(int reading, Draft made) {
+            picked = reading;
+            for (int i = 0; i < MOST_SYMBOLS; i++) {
+                ticks[i] = made.ticksAt(i);
             }
-            int length = Math.min(draft.length, formWidth);
-            for (int i = 0; i < length; i++) {
-                forms[held * formWidth + i] = (byte) draft.formAt(i);
+        }
+
+        /** What a symbol is in the reading picked. */
+        int ticksAt(int i) {
+            return i < 0 || i >= MOST_SYMBOLS ? 0 : ticks[i];
+        }
+    }
+
+    /**
+     * The readings of the row that was read last. Each is held as the choices that led to it, many
+     * to a word: a thousand readings with their forms and values would need ten times the room.
+     */
+    private static final class Found {
+        // A reading of n symbols has at most 2 n - 1 forms: each joins two parts or stands for a symbol.
+        static final int STEPS = 2 * MOST_SYMBOLS;
+        private static final int BITS = 5, IN_A_WORD = 12, WORDS = STEPS / IN_A_WORD, STRAINS = 128;
+        private final long[] words = new long[MOST_READINGS * WORDS];
+        private final int[] strains = new int[MOST_READINGS], order = new int[MOST_READINGS];
+        private final int[] firstOfStrain = new int[STRAINS + 1];
+        int total;
+
+        void clear() {
+            total = 0;
+        }
+
+        boolean isMany() {
+            return total > MOST_READINGS;
+        }
+
+        void add(int[] choices, int steps, int strain, int copies) {
+            for (int c = 0; c < copies && !isMany(); c++) {
+                if (total >= 0 && total < MOST_READINGS) {
+                    strains[total] = Math.max(0, Math.min(strain, STRAINS - 1));
+                    pack(choices, Math.min(steps, choices.length));
+                }
+                total++;
             }
-            for (int i = 0; i < tickWidth; i++) {
-                ticks[held * tickWidth + i] = (short) draft.ticksAt(i);
+        }
+
+        private void pack(int[] choices, int steps) {
+            for (int w = 0; w < WORDS; w++) {
+                long word = 0;
+                for (int j = 0; j < IN_A_WORD && w * IN_A_WORD + j < steps; j++) {
+                    word |= (long) choices[w * IN_A_WORD + j] << j * BITS;
+                }
+                words[total * WORDS + w] = word;
             }
-            lengths[held] = length;
-            strains[held] = Math.max(0, Math.min(draft.strain, STRAINS - 1));
-            copies[held] = draft.copies;
-            held++;
         }
 
         /** They were added in the order of their forms: this keeps it among those of one strain. */
@@ -581,44 +616,28 @@ public final class MensuralRows {
                 return;
             }
             Arrays.fill(firstOfStrain, 0);
-            for (int h = 0; h < held; h++) {
-                firstOfStrain[strains[h] + 1] += copies[h];
+            for (int h = 0; h < total; h++) {
+                firstOfStrain[strains[h] + 1]++;
             }
             for (int s = 1; s <= STRAINS; s++) {
                 firstOfStrain[s] += firstOfStrain[s - 1];
             }
-            for (int h = 0; h < held; h++) {
-                for (int c = 0; c < copies[h]; c++) {
-                    putInOrder(h);
+            for (int h = 0; h < total; h++) {
+                int to = firstOfStrain[strains[h]];
+                if (to >= 0 && to < MOST_READINGS) {
+                    order[to] = h;
+                    firstOfStrain[strains[h]]++;
                 }
             }
         }
 
-        private void putInOrder(int h) {
-            int to = firstOfStrain[strains[h]];
-            if (to >= 0 && to < MOST_READINGS) {
-                order[to] = h;
-                firstOfStrain[strains[h]]++;
+        /** Which choice a reading takes at a step, or 0. */
+        int choiceOf(int reading, int step) {
+            if (reading < 0 || reading >= total || reading >= MOST_READINGS || step < 0 || step >= STEPS) {
+                return 0;
             }
-        }
-
-        private int heldAt(int reading) {
-            return reading < 0 || reading >= total || reading >= MOST_READINGS ? NONE : order[reading];
-        }
-
-        int strainOf(int reading) {
-            int h = heldAt(reading);
-            return h < 0 ? NONE : strains[h];
-        }
-
-        int formOf(int reading, int i) {
-            int h = heldAt(reading);
-            return h < 0 || i < 0 || i >= lengths[h] ? NONE : forms[h * formWidth + i];
-        }
-
-        int ticksOf(int reading, int i) {
-            int h = heldAt(reading);
-            return h < 0 || i < 0 || i >= tickWidth ? NONE : ticks[h * tickWidth + i];
+            long word = words[order[reading] * WORDS + step / IN_A_WORD];
+            return (int) (word >> step % IN_A_WORD * BITS) & (1 << BITS) - 1;
         }
     }
 
@@ -663,7 +682,7 @@ public final class MensuralRows {
         }
 
         int formAt(int i) {
-            return i < 0 || i >= FORMS ? NONE : forms[i];
+            return i < 0 || i >= length || i >= FORMS ? NONE : forms[i];
         }
 
         int ticksAt(int i) {
@@ -863,7 +882,8 @@ public final class MensuralRows {
      */
     private static final class Chain {
         static final int ROW = 0, UNIT = 1, PAIR = 2, THIRD = 3, TAKE = 4, TAKE_DOTTED = 5, DIVIDE = 6;
-        static final int TASKS = 256;
+        // Of 24 symbols at most 47 forms are due, as many dots behind units, and 12 notes behind units.
+        static final int TASKS = 128;
         private final int[] sorts = new int[TASKS], kinds = new int[TASKS], worths = new int[TASKS];
         private final int[] rests = new int[TASKS], places = new int[TASKS];
         final Spans spans = new Spans();
@@ -937,27 +957,26 @@ public final class MensuralRows {
     private static final class Reader {
         // A row's choice 16 is form 15 of the greater one of the two kinds that can begin there.
         private static final int PAIR_OF_GREATER = 16;
-        private static final int STEPS = 2 * MOST_SYMBOLS, MOST_TURNS = 1000000;
+        private static final int STEPS = Found.STEPS, MOST_TURNS = 1000000;
         private final Chain chain = new Chain();
-        private final Draft draft = new Draft();
+        private final Found found = new Found();
+        final Draft draft = new Draft();
         private final int[] stepTask = new int[STEPS], stepPlace = new int[STEPS], stepChoice = new int[STEPS];
         private final int[] stepMade = new int[STEPS], stepLength = new int[STEPS];
         private final int[] stepStrain = new int[STEPS], stepCopies = new int[STEPS];
-        private int task;
+        private int task, leastStrain;
+        private Voice readLast;
 
         void read(Voice v) {
-            if (!v.stale) {
-                return;
-            }
-            v.stale = false;
             chain.spans.fill(v);
-            begin(v.found);
+            found.clear();
+            begin();
             if (v.row.size == 0) {
-                v.found.add(draft);
+                keep(v, 0);
             }
             int depth = v.row.size == 0 ? NONE : 0;
             save(depth);
-            for (int turn = 0; turn < MOST_TURNS && depth >= 0 && depth < STEPS && !v.found.isMany(); turn++) {
+            for (int turn = 0; turn < MOST_TURNS && depth >= 0 && depth < STEPS && !found.isMany(); turn++) {
                 int choice = nextChoice(v, stepTask[depth], stepPlace[depth], stepChoice[depth]);
                 if (choice == 0) {
                     depth--;
@@ -968,21 +987,42 @@ public final class MensuralRows {
                 choose(v, choice);
                 settle(v.row);
                 if (chain.sortOf(task) == Chain.ROW && draft.place == v.row.size) {
-                    v.found.add(draft);
+                    keep(v, depth + 1);
                 } else if (depth + 1 < STEPS) {
                     depth++;
                     save(depth);
                 }
             }
-            v.found.arrange();
+            found.arrange();
+            readLast = v;
+            v.know(found.total, 31 - Integer.numberOfLeadingZeros(chain.spans.reached));
         }
 
-        private void begin(Found found) {
+        private void begin() {
             task = 0;
             chain.begin();
             draft.begin();
-            found.clear();
-            found.furthest = 31 - Integer.numberOfLeadingZeros(chain.spans.reached);
+        }
+
+        private void keep(Voice v, int steps) {
+            // A row that has not changed is read again for what was found only: what is picked stays.
+            if (v.stale && (found.total == 0 || draft.strain < leastStrain)) {
+                v.holdPicked(0, draft);
+                leastStrain = draft.strain;
+            }
+            found.add(stepChoice, steps, draft.strain, draft.copies);
+        }
+
+        /** The draft is one of the readings of a row that is not stale. */
+        void makeAgain(Voice v, int reading) {
+            if (readLast != v) {
+                read(v);
+            }
+            begin();
+            for (int step = 0; step < STEPS && draft.place < v.row.size; step++) {
+                choose(v, found.choiceOf(reading, step));
+                settle(v.row);
+            }
         }
 
         private void save(int depth) {
@@ -1193,7 +1233,7 @@ public final class MensuralRows {
                 ups[i] = now.up;
                 downs[i] = now.down;
                 if (i < size) {
-                    lasting.set((long) v.found.ticksOf(v.picked, i) * v.row.downAt(i), v.row.upAt(i));
+                    lasting.set((long) v.ticksAt(i) * v.row.downAt(i), v.row.upAt(i));
                     now.add(lasting);
                 }
             }
@@ -1222,10 +1262,10 @@ public final class MensuralRows {
         private final int[] pitches = new int[MOST_SYMBOLS];
         private final long[] beginUps = new long[MOST_SYMBOLS], beginDowns = new long[MOST_SYMBOLS];
         private final long[] lengthUps = new long[MOST_SYMBOLS], lengthDowns = new long[MOST_SYMBOLS];
+        private final Ratio now = new Ratio(), lasting = new Ratio();
         private int size;
 
         void follow(Voice v, int how, int behind, int higher) {
-            Ratio now = new Ratio(), lasting = new Ratio();
             now.set(behind, 1);
             boolean pivoted = false;
             int pivot = 0;
@@ -1242,19 +1282,19 @@ public final class MensuralRows {
                 }
                 int turned = (how & TURNED) != 0 ? 2 * pivot - pitch : pitch;
                 int longer = (how & DOUBLED) != 0 ? 2 : 1;
-                lasting.set((long) v.found.ticksOf(v.picked, i) * v.row.downAt(i) * longer, v.row.upAt(i));
-                append(sounds ? turned + higher : PITCH_OF_RESTS, now, lasting);
+                lasting.set((long) v.ticksAt(i) * v.row.downAt(i) * longer, v.row.upAt(i));
+                append(sounds ? turned + higher : PITCH_OF_RESTS);
                 now.add(lasting);
             }
         }
 
-        private void append(int pitch, Ratio begin, Ratio lasting) {
+        private void append(int pitch) {
             if (size < 0 || size >= MOST_SYMBOLS) {
                 return;
             }
             pitches[size] = pitch;
-            beginUps[size] = begin.up;
-            beginDowns[size] = begin.down;
+            beginUps[size] = now.up;
+            beginDowns[size] = now.down;
             lengthUps[size] = lasting.up;
             lengthDowns[size] = lasting.down;
             size++;
@@ -1279,7 +1319,7 @@ public final class MensuralRows {
     private static final class Writer {
         static final int CHOICES = 2 * KINDS, MOST_TRIES = (MOST_WRITTEN + 1) * CHOICES * CHOICES * CHOICES;
         private static final int WRITTEN_DOT = 7;
-        final Voice draft = new Voice(0, 2 * MOST_WRITTEN);
+        final Voice draft = new Voice();
         private final int[] wanted = new int[MOST_WRITTEN], choices = new int[MOST_WRITTEN];
         private final int[] fitting = new int[MOST_WRITTEN * CHOICES], fittingCount = new int[MOST_WRITTEN];
         private final int[] kept = new int[2 * MOST_WRITTEN];
@@ -1355,13 +1395,13 @@ public final class MensuralRows {
         }
 
         boolean isAsWanted() {
-            if (draft.found.isMany()) {
+            if (draft.isMany() || draft.total == 0) {
                 return false;
             }
             int note = 0;
             for (int i = 0; i < draft.row.size; i++) {
                 if (draft.row.sortAt(i) == NOTE) {
-                    if (note >= MOST_WRITTEN || draft.found.ticksOf(0, i) != wanted[note]) {
+                    if (note >= MOST_WRITTEN || draft.ticksAt(i) != wanted[note]) {
                         return false;
                     }
                     note++;

@@ -95,15 +95,16 @@ public final class RoomTest {
     private static MensuralRows filled() {
         MensuralRows x = new MensuralRows();
         for (int v = 0; v < 5; v++) {
-            x.voice(v == 2 ? 0 : 4);
+            x.voice(v == 2 ? 8 : 4);
         }
         for (int i = 0; i < 8; i++) {
             x.note(0, i % 3 == 0 ? 2 : 3, i, false);
             x.note(1, 3, i, false);
             x.note(3, 2 + i % 2, i, true);
         }
-        for (int i = 0; i < 24; i++) {
-            x.note(2, 5, i, false);
+        for (int i = 0; i < 12; i++) {
+            x.note(2, 3, i, false);
+            x.dot(2);
         }
         return x;
     }
@@ -127,6 +128,9 @@ public final class RoomTest {
     }
 
     public static void main(String[] args) throws IllegalAccessException {
+        MensuralRows rows = filled();
+        must(rows.readings(0) > 1 && rows.readings(2) == MensuralRows.MANY && rows.readings(3) == 0,
+            "the rows have several readings, MANY, and none");
         long[] fresh = countAll(new MensuralRows());
         System.out.println("a new object: " + fresh[0] + " objects and arrays, " + fresh[1] + " fields and elements");
         must(fresh[0] * CALLS <= ROOM_OBJECTS, "the objects of 512 constructors have room");

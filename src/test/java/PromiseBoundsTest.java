@@ -538,6 +538,13 @@ public final class PromiseBoundsTest {
         due("just that", x.at(0, 1728000000, 21000000), 4);
         due("just behind it", x.at(0, 1728000001, 21000000), 4);
         due("just before it", x.at(0, 1727999999, 21000000), 2);
+        MensuralRows sevenths = Sheet.desk(4, "");
+        sevenths.proportion(0, 7, 1);
+        Sheet.put(sevenths, 0, "n2 n2 n2 n2 n2");
+        // The fifth begins at 41 and 1 / 7, which is 41 and 10 / 70.
+        due("41 9/70", sevenths.at(0, 2879, 70), 3);
+        due("41 10/70", sevenths.at(0, 2880, 70), 4);
+        due("41 11/70", sevenths.at(0, 2881, 70), 4);
         due("numbers near each other", x.at(0, MOST, MOST - 1), 0);
         due("far from 72", x.at(0, MOST, 29826161), 2);
         due("just below 72", x.at(0, MOST, 29826162), 0);

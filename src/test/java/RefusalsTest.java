@@ -224,6 +224,8 @@ public final class RefusalsTest {
         refused("f, before none", () -> x.follower(6, 99, 0), BAD);
         refused("f", () -> x.follower(-1, 0, 0), BAD);
         refused("what, before none", () -> x.follower(0, 24, 5), BAD);
+        refused("what below 0, before none", () -> x.follower(0, 24, -1), BAD);
+        refused("what below 0, before none", () -> x.follower(0, -1, -2), BAD);
         refused("what", () -> x.follower(0, 0, -1), BAD);
         refused("none", () -> x.follower(0, 22, 0), NONE);
         refused("none", () -> x.follower(1, 4, 4), NONE);

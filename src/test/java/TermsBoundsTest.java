@@ -451,6 +451,18 @@ public final class TermsBoundsTest {
         sticks(0, Sheet.times(23, "n4") + " c4", 23);
         sticks(0, "c6 " + Sheet.times(23, "n4"), 0);
         due("all of it", Sheet.desk(0, Sheet.times(24, "n4")).stuck(0), NONE);
+        MensuralRows two = Sheet.desk(0, "c4 c4 c4 n4");
+        int other = Sheet.add(two, 0, "c4 c4 r6");
+        for (int turn = 0; turn < 2; turn++) {
+            due("the row that has a reading", two.stuck(0), NONE);
+            due("the row beside it", two.stuck(other), 0);
+            due("its readings", two.readings(other), 0);
+            // Both rows are read again in the second turn.
+            two.back(0);
+            two.back(other);
+            Sheet.put(two, 0, "n4");
+            Sheet.put(two, other, "r6");
+        }
     }
 
     // ---- part 3
